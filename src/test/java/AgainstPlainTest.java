@@ -70,7 +70,7 @@ public final class AgainstPlainTest {
             either(text, depth - 1);
             text.append(')');
         } else {
-            text.append("pkngsy".charAt(below(6))).append("<=>".charAt(below(3))).append(number(21));
+            text.append("pkngsy".charAt(below(6))).append("<=>".charAt(below(3))).append(below(4) == 0 ? number(99) : number(21));
         }
     }
 

@@ -145,6 +145,11 @@ public final class PromisesTest {
         fault("slip 5  p=1", 7);
         fault("slip 5 a=1", 7);
         fault("slip 5 p", 8);
+        fault("slip 5 =1", 7);
+        fault("slip 5 1", 7);
+        fault("slip 5 p1", 8);
+        fault("ide 1", 0);
+        fault("pay 1;ay 1", 6);
         fault("slip 5 p!1", 8);
         fault("slip 5 p==1", 9);
         fault("slip 5 p=", 9);
@@ -307,36 +312,41 @@ public final class PromisesTest {
     }
 
     private static void p9Opens() {
-        opens("slip 7 p=1", 1, 20, 27, 20);
-        opens("slip 7 p<1", 1, 20, 20, 27);
-        opens("slip 7 k=4", 1, 20, 27, 20);
-        opens("slip 7 n=2", 1, 20, 27, 27);
-        opens("slip 7 n=2", 1, 29, 36, 36);
-        opens("slip 7 n>2", 1, 29, 29, 29);
-        opens("slip 7 g=3", 1, 20, 27, 20);
-        opens("slip 7 s=11", 1, 20, 27, 20);
-        opens("slip 7 y=2", 1, 20, 27, 27);
-        opens("slip 7 y<2", 1, 20, 20, 20);
-        opens("glue 7 p=1", 1, 20, 13, 20);
-        opens("glue 21 y=2", 1, 20, 0, 0);
-        opens("glue 30 y=2;slip 15 y=2", 1, 20, 5, 5);
-        opens("slip 99 y=2;slip 99 p=1;glue 3 p=0", 1, 99, 297, 195);
-        opens("slip 7 !p=1", 1, 20, 20, 27);
-        opens("slip 7 !!p=1", 1, 20, 27, 20);
-        opens("slip 7 p=1&k=3", 1, 20, 20, 20);
-        opens("slip 7 p=1|k=3", 1, 20, 27, 20);
-        opens("slip 7 p=0|p=1&s=11", 1, 20, 27, 27);
-        opens("slip 7 p=0&s=1|p=1", 1, 20, 27, 20);
-        opens("slip 7 (p=0|p=1)&s=0", 1, 20, 20, 27);
-        opens("slip 7 p=0|p=1&s=0", 1, 20, 20, 27);
-        opens("slip 7 !p=0&s=11", 1, 20, 27, 20);
-        opens("slip 7 !(p=0|s=11)", 1, 20, 20, 20);
-        opens("slip 7 !(p=0&s=11)", 1, 20, 27, 27);
-        opens("slip 1 p=0;slip 2 p=1;wide 3;slip 4 p<2;pay 4;glue 1 k>0", 1, 20, 25, 25);
+        opens("slip 7 p=1", 20, 27, 20);
+        opens("slip 7 p<1", 20, 20, 27);
+        opens("slip 7 k=4", 20, 27, 20);
+        opens("slip 7 n=2", 20, 27, 27);
+        opens("slip 7 n=2", 29, 36, 36);
+        opens("slip 7 n>2", 29, 29, 29);
+        opens("slip 7 g=3", 20, 27, 20);
+        opens("slip 7 s=11", 20, 27, 20);
+        opens("slip 7 y=2", 20, 27, 27);
+        opens("slip 7 y<2", 20, 20, 20);
+        opens("slip 7 p<99", 20, 27, 27);
+        opens("slip 7 y<99", 20, 27, 27);
+        opens("slip 7 y>99", 20, 20, 20);
+        opens("slip 7 k=99", 20, 20, 20);
+        opens("slip 7 !s>98&g<99", 20, 27, 27);
+        opens("glue 7 p=1", 20, 13, 20);
+        opens("glue 21 y=2", 20, 0, 0);
+        opens("glue 30 y=2;slip 15 y=2", 20, 5, 5);
+        opens("slip 99 y=2;slip 99 p=1;glue 3 p=0", 99, 297, 195);
+        opens("slip 7 !p=1", 20, 20, 27);
+        opens("slip 7 !!p=1", 20, 27, 20);
+        opens("slip 7 p=1&k=3", 20, 20, 20);
+        opens("slip 7 p=1|k=3", 20, 27, 20);
+        opens("slip 7 p=0|p=1&s=11", 20, 27, 27);
+        opens("slip 7 p=0&s=1|p=1", 20, 27, 20);
+        opens("slip 7 (p=0|p=1)&s=0", 20, 20, 27);
+        opens("slip 7 p=0|p=1&s=0", 20, 20, 27);
+        opens("slip 7 !p=0&s=11", 20, 27, 20);
+        opens("slip 7 !(p=0|s=11)", 20, 20, 20);
+        opens("slip 7 !(p=0&s=11)", 20, 27, 27);
+        opens("slip 1 p=0;slip 2 p=1;wide 3;slip 4 p<2;pay 4;glue 1 k>0", 20, 25, 25);
     }
 
     /** Player 0 is KIND 0, SKILL 0; player 1 KIND 4, SKILL 11, GLASSES 3; TRY is 2. */
-    private static void opens(String inn, int unused, int n, int ofOne, int ofNought) {
+    private static void opens(String inn, int n, int ofOne, int ofNought) {
         MatFlip x = with(inn);
         x.player(0, 0, 0, 1, 0);
         x.player(4, 0, 11, 1, 0);
@@ -366,6 +376,13 @@ public final class PromisesTest {
         due("draw -1", x.would(0, 1, 0, -1), -2);
         due("draw 10", x.would(0, 1, 0, 10), -2);
         due("no try is done", x.told(0), 0);
+
+        // TURN 45: a greater DRAW is nearer.
+        due("draw 0 by 45", x.would(0, 10, 10, 0), 0);
+        due("draw 3 by 45", x.would(0, 10, 10, 3), 5);
+        due("draw 4 by 45", x.would(0, 10, 10, 4), 10);
+        due("draw 7 by 45", x.would(0, 10, 10, 7), 10);
+        due("draw 8 by 45", x.would(0, 10, 10, 8), 5);
 
         MatFlip y = with("wide 5;slip 15 p=1");
         y.player(0, 0, 20, 1, 0);
@@ -407,6 +424,19 @@ public final class PromisesTest {
         due("draw 10", x.go(0, 1, 1, 10), -2);
         due("draw -1", x.go(0, 1, 1, -1), -2);
         due("refusals are no tries", x.told(0), 8);
+
+        MatFlip y = with("slip 5 y=0;slip 7 y=3");
+        y.player(0, 0, 0, 1, 0);
+        for (int t = 0; t < 25; t++) {
+            due("y by try " + t, y.pile(0, 1, 0, 1), t % 10 == 0 ? 6 : t % 10 == 3 ? 8 : 1);
+            y.go(0, 1, 0, 0);
+        }
+        // An object is not promised to live that long, but the refusal is.
+        for (int t = 25; t < 9999; t++) y.go(0, 1, 0, 0);
+        due("tries till the last", y.told(0), 9999);
+        due("try 9999", y.go(0, 1, 0, 0), -3);
+        due("bad ahead of state", y.go(0, 0, 0, 0), -2);
+        due("try 9999 stays", y.told(0), 9999);
     }
 
     private static void state(MatFlip x, int skill, int score, int purse) {
@@ -424,6 +454,9 @@ public final class PromisesTest {
         due("by force 8: TURN 35", x.odds(0, 10, 8), 3);
         due("by force 15: TURN 70", x.odds(0, 10, 15), 0);
         due("too many", x.odds(0, 21, 12), 0);
+        x.set(0, 0, 8);
+        due("draws 0 to 5", x.odds(0, 10, 12), 6);
+        due("draws 3 to 9", x.odds(0, 10, 10), 7);
         x.set(0, 0, 20);
         due("sure", x.odds(0, 10, 12), 10);
         due("sure of a miss", x.odds(0, 10, 13), 0);
@@ -479,6 +512,9 @@ public final class PromisesTest {
         due("5 of 10 do", x.most(0), 20);
         x.set(0, 1, 1);
         due("4 of 10 don't", x.most(0), 0);
+        MatFlip y = with("wide 0;slip 99 n>0");
+        y.player(0, 0, 20, 1, 0);
+        due("one mat alone", y.most(0), 1);
         due("nobody", x.most(2), -1);
         due("player -1", x.most(-1), -1);
         due("inn 0", Checks.inn(x, "glue 50 n>3"), 0);
@@ -504,6 +540,9 @@ public final class PromisesTest {
         y.set(0, 2, 0);
         y.go(0, 1, 0, 0);
         due("none at all", y.learns(0), 5);
+        MatFlip z = with("wide 0");
+        z.player(0, 0, 20, 1, 0);
+        due("one mat alone", z.learns(0), 1);
         due("nobody", x.learns(1), -1);
     }
 
@@ -525,6 +564,13 @@ public final class PromisesTest {
         y.set(0, 2, 5);
         due("ten, then learning or ten", y.plan(0, 2, 0), 35);
         due("ten, below", y.plan(0, 2, 1), 4);
+        // SKILL 1 lets 60 be caught; by SCORE 31 it comes from 30 or 35 mats: half of 47 1/2 and of 33.
+        MatFlip z = with("glue 99 s>0|n=3");
+        z.player(0, 0, 0, 1, 0);
+        z.set(0, 2, 31);
+        due("learning at 30 or 35", z.first(0, 2), 35);
+        due("learning, the mean", z.plan(0, 2, 0), 161);
+        due("learning, below", z.plan(0, 2, 1), 4);
         due("nobody", x.plan(1, 1, 0), NO);
         due("0 tries", x.plan(0, 0, 0), NO);
         due("4 tries", x.plan(0, 4, 0), NO);
@@ -736,6 +782,19 @@ public final class PromisesTest {
         due("who of three", x.title(-1), 1);
         due("title -2", x.title(-2), -1);
         due("title 3", x.title(3), -1);
+        // From 49, not from 20; both from the 99th on.
+        MatFlip w = with("glue 99 p=0&n=4");
+        w.player(0, 0, 20, 1, 0);
+        w.player(0, 0, 20, 2, 0);
+        due("from the greater of their mosts", w.title(0), 2);
+        // 8 and 7 of ten at 99 mats: by 3 or 5 tries the second would be ahead.
+        MatFlip v = with("wide 7;glue 99 n>0");
+        v.player(0, 0, 4, 9, 0);
+        v.player(2, 4, 4, 9, 0);
+        due("8 of ten", v.best(0, 99, 1), 8);
+        due("7 of ten", v.best(1, 99, 1), 7);
+        due("by 4 tries", v.title(0), 2);
+        due("by 4 tries, the second", v.title(1), 0);
         MatFlip y = with("glue 99 n<10");
         for (int i = 0; i < 3; i++) y.player(0, 0, 20, 1, 0);
         for (int i = 0; i < 3; i++) due("draws", y.title(i), 2);
@@ -779,7 +838,10 @@ public final class PromisesTest {
         due("never", x.can(3), 0);
         x.set(0, 0, 20);
         due("as it is now", x.can(0), 1023);
-        due("can 4", x.can(4), -1);
+        x.player(1, 0, 4, 1, 0);
+        x.see(1, 10, 12, 10);
+        due("of another one: UNSURE 1", x.can(4), 0b0000111111);
+        due("can 5", x.can(5), -1);
         due("can -1", x.can(-1), -1);
     }
 
@@ -937,9 +999,12 @@ public final class PromisesTest {
         x.player(1, 2, 3, 4, 5);
         Checks.inn(x, "wide 9;pay 2");
         x.row(0, 1, 7);
+        x.row(0, 3, 8);
         x.set(0, 1, 2);
-        x.see(1, 4, 5, 2);
-        x.book(0, 13);
+        x.see(1, 10, 11, 10);
+        x.see(1, 10, 12, 10);
+        x.book(0, x.most(0));
+        x.book(1, 98);
         x.go(0, 3, 11, 4);
         Checks.feed(x, "pay");
         x.act(0, 0, 1);
@@ -951,11 +1016,13 @@ public final class PromisesTest {
             x.inn();
             x.row(0, 1, 1);
             x.row(0, 0, 1);
+            x.row(0, 3, 1);
             for (int what = 0; what < 3; what++) x.set(0, what, 9);
             x.see(-1, 0, 0, 0);
             x.see(0, 9, 9, 9);
             x.book(-1, 0);
-            x.book(1, 1);
+            if (round == 0) x.book(1, 1);
+            if (round == 0) x.see(0, 9, 8, 9);
             x.go(1, 50, 0, 0);
             Checks.feed(x, "glue");
             x.act(1, 2, 5);
@@ -969,13 +1036,15 @@ public final class PromisesTest {
         due("pay", x.told(2), 8);
         due("player goes on", x.player(0, 0, 0, 1, 0), 2);
         due("row is again", x.row(0, 1, 0), 7);
-        due("seen is again", x.can(0) == -1 ? 0 : 1, 1);
+        due("the last of the row is, too", x.row(0, 3, 0), 8);
+        due("the number is again", x.act(1, 0, 5), 16);
+        due("seen is again", Integer.bitCount(x.can(0)) > 0 ? 1 : 0, 1);
         due("undo twice", x.undo(), 2);
         due("row is as the image, not as then", x.row(0, 1, 0), 7);
     }
 
     private static long[] told(MatFlip x) {
-        long[] all = new long[2 * 8 + 3 + 5 + 4];
+        long[] all = new long[2 * 8 + 3 + 5 + 6];
         int at = 0;
         for (int p = 0; p < 2; p++) {
             for (int what = 0; what < 8; what++) all[at++] = x.of(p, what);
@@ -983,6 +1052,8 @@ public final class PromisesTest {
         for (int what = 0; what < 3; what++) all[at++] = x.told(what);
         for (int what = 0; what < 5; what++) all[at++] = x.count(what);
         all[at++] = x.can(0);
+        all[at++] = x.can(1);
+        all[at++] = x.skills(1);
         all[at++] = x.looked();
         all[at++] = x.pile(0, 20, 10, 0);
         all[at] = x.most(0);
