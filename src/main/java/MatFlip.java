@@ -223,7 +223,7 @@ public final class MatFlip {
 
     public long more(int one, int other, int tries, int part) {
         Player p = find(one), q = find(other);
-        if (p == null || q == null || p == q || isOut(tries, 1, MORE_TRIES) || isNoPart(part)) return NO;
+        if (p == null || q == null || one == other || isOut(tries, 1, MORE_TRIES) || isNoPart(part)) return NO;
         lay(p, oneMoreThan(q));
         long missed = 1;
         for (int t = 0; t < tries; t++) missed *= DRAWS - pile.bestOdds();
@@ -246,7 +246,7 @@ public final class MatFlip {
 
     public long raise(int one, int other, int n, int tries, int what, int part) {
         Player p = find(one), q = find(other);
-        if (p == null || q == null || p == q) return NO;
+        if (p == null || q == null || one == other) return NO;
         if (isNoPile(n) || isOut(tries, 1, RAISE_TRIES) || isOut(what, 0, 1) || isNoPart(part)) return NO;
         return lowest(raised(p, q, n, tries, what), tenths(tries), part);
     }
@@ -254,7 +254,7 @@ public final class MatFlip {
     public int wager(int one, int other, int stake) {
         Player p = find(one), q = find(other);
         if (p == null || q == null) return NONE;
-        if (p == q || isOut(stake, 0, 999)) return BAD;
+        if (one == other || isOut(stake, 0, 999)) return BAD;
         lay(p, oneMoreThan(q));
         int odds = pile.bestOdds();
         int gain = stake * odds - stake * (DRAWS - odds);
@@ -500,7 +500,7 @@ public final class MatFlip {
         }
     }
 
-    /** The mean of SCORE at best, times ten for each of the TRIES left. */
+    /** The mean of SCORE at best, by 10 to the power of the TRIES left, so that it stays whole. */
     private long planned(int score, int rises, int left) {
         if (left <= 0) return score;
         long missed = planned(score, rises, left - 1), most = 0;
@@ -517,15 +517,16 @@ public final class MatFlip {
         return odds * caught + (DRAWS - odds) * missed;
     }
 
-    /** How likely the first wins (what 0), how likely it is a draw (1), times ten for each TRY. */
+    /** How likely the first wins (what 0), how likely it is a draw (1), by 10 to the power of the TRIES. */
     private long raised(Player one, Player other, int n, int tries, int what) {
         long nobody = 1, wins = 0;
         for (int t = 0; t < tries; t++) {
-            Player who = t % 2 == 0 ? one : other;
+            boolean firstTries = t % 2 == 0;
+            Player who = firstTries ? one : other;
             pile.layFor(now, who, Math.min(MATS, n + t), who.skill, who.glasses);
             int odds = pile.bestOdds();
             wins *= DRAWS;
-            if (who == other) wins += nobody * (DRAWS - odds);
+            if (!firstTries) wins += nobody * (DRAWS - odds);
             nobody *= odds;
         }
         return what == 0 ? wins : nobody;
