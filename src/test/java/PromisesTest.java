@@ -711,6 +711,10 @@ public final class PromisesTest {
         y.set(0, 1, 9);
         due("sober is best", y.glass(0, 0), 0);
         due("most sober", y.glass(0, 1), 20);
+        MatFlip w = with("slip 99 g<9");
+        w.player(4, 0, 20, 2, 0);
+        due("by 9 alone", w.glass(0, 0), 9);
+        due("most by 9", w.glass(0, 1), 20);
         due("what 2", x.glass(0, 2), -1);
         due("what -1", x.glass(0, -1), -1);
         due("nobody", x.glass(1, 0), -1);
@@ -799,10 +803,15 @@ public final class PromisesTest {
         for (int i = 0; i < 3; i++) y.player(0, 0, 20, 1, 0);
         for (int i = 0; i < 3; i++) due("draws", y.title(i), 2);
         due("the least of several", y.title(-1), 0);
-        MatFlip z = with("slip 99 n<10");
+        // 11 lie open of one mat, but of none 10, which would fit.
+        MatFlip z = with("slip 10 n<10");
         for (int i = 0; i < 2; i++) z.player(0, 0, 20, 1, 0);
         due("from 1 at least: the first fails", z.title(0), 0);
         due("from 1 at least: the second wins", z.title(1), 2);
+        MatFlip u = with("wide 0;slip 99 n>0");
+        for (int i = 0; i < 2; i++) u.player(0, 0, 20, 1, 0);
+        due("from 1: the first catches", u.title(0), 2);
+        due("from 1: the second fails at 2", u.title(1), 0);
     }
 
     private static void p28See() {
