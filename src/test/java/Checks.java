@@ -20,6 +20,10 @@ final class Checks {
         for (int i = 0; i < Math.min(got.length, want.length); i++) due(calls + " #" + i, got[i], want[i]);
     }
 
+    int asked() {
+        return asked;
+    }
+
     void end() {
         System.out.println(title + ": " + asked + " answers, " + wrong + " not as due");
         if (wrong != 0) System.exit(1);
