@@ -6,12 +6,14 @@ public final class AgainstPlainTest {
         "count"};
     private static final int[] SOME_ODD_NUMBERS = {
         -1, -2, 0, 1, 9, 10, 20, 21, 99, 100, 127, 128, 1000, Integer.MIN_VALUE, Integer.MAX_VALUE};
+    /** For so many calls an object is used. */
+    private static final int WHOLE_RUN = 512;
     private static final Checks C = new Checks("AgainstPlainTest");
     private static long seed = 20261118;
 
     public static void main(String[] args) {
         for (int i = 0; i < 60000; i++) readAlike(text());
-        for (int run = 0; run < 400; run++) runAlike(run);
+        for (int run = 0; run < 400; run++) runAlike(run, run % 10 == 0 ? WHOLE_RUN : 120);
         C.end();
     }
 
@@ -101,11 +103,11 @@ public final class AgainstPlainTest {
 
     // ---- runs
 
-    private static void runAlike(int run) {
+    private static void runAlike(int run, int calls) {
         MatFlip x = new MatFlip();
         PlainModel y = new PlainModel();
         for (int k = from(0, 6); k > 0; k--) alike(run, x, y, "player", arguments("player", false));
-        for (int call = 0; call < 120; call++) {
+        for (int call = 0; call < calls; call++) {
             if (below(30) == 0) {
                 String text = text();
                 for (int i = 0; i < text.length(); i++) alike(run, x, y, "feed", new int[] {text.charAt(i)});
